@@ -81,6 +81,8 @@ public final class LimitsTest {
         CHECKS.fault("before places are read", LIMIT, reader(8, 60, 3, 700),
                 "75" + Hex.desc("[I", 0, 2, Hex.NULL) + Hex.u4(4));
         CHECKS.reads("at the length", 0, reader(8, 60, 3, 700), Hex.ints(1, 2, 3));
+        CHECKS.reads("an instance has no length", 0, reader(8, 60, 0, 700), "73" + A);
+        CHECKS.reads("a constant has no length", 1, reader(8, 60, 0, 700), "7E" + CONSTANT + Hex.text("a"));
     }
 
     /** So many descriptors, each in the rest of the one before it, up to where the next would begin. */
@@ -100,6 +102,14 @@ public final class LimitsTest {
         CHECKS.fault("NULL in a rest at depth 9", LIMIT, reader(8, 60, 20, 700), restsWithin(8) + Hex.NULL);
         CHECKS.reads("blocks in a rest at depth 8", NULL, reader(8, 60, 20, 700),
                 restsWithin(8) + Hex.block("00") + "7870".repeat(8));
+        String[] readersOfDepth8 = {Hex.text("a"), "7E" + CONSTANT + Hex.text("a"), Hex.refs(Hex.text("a")),
+            Hex.desc("X", 0, 2, Hex.NULL, Hex.field('L', "a", Hex.text("s"))),
+            "73" + Hex.desc("A", 0, 3, Hex.NULL) + Hex.text("a") + "78",
+            "73" + Hex.desc("A", 0, 2, Hex.NULL, Hex.field('L', "a", Hex.text("s"))) + Hex.text("a")};
+        for (String content : readersOfDepth8) {
+            CHECKS.reads("a text at depth 8 or 7", NULL, reader(8, 60, 20, 700),
+                    restsWithin(6) + content + "7870".repeat(6));
+        }
         CHECKS.reads("a text at depth 8", NULL, reader(8, 60, 20, 700),
                 restsWithin(7) + Hex.text("a") + "7870".repeat(7));
     }

@@ -45,6 +45,10 @@ public final class PassBlockTest {
         CHECKS.same("at the end", x.passBlock(), REFUSED);
         CHECKS.same("what lasts", x.count(3), 0);
         CHECKS.same("of a new object", new GraphReader(8, 60, 20, 700).passBlock(), REFUSED);
+        GraphReader full = opened(Hex.longBlock("00".repeat(691)));
+        CHECKS.same("a block up to byte 700", full.passBlock(), 691);
+        CHECKS.same("at byte 700", full.passBlock(), REFUSED);
+        CHECKS.same("a read at byte 700", full.read(), END);
     }
 
     private static void brokenBlocks() {

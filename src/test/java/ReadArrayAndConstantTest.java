@@ -68,7 +68,7 @@ public final class ReadArrayAndConstantTest {
 
     private static void namesOfArrays() {
         String[] names = {"A", "[", "I", "[J", "[II", "[i", "", "[Ljava.lang.Object", "[Ljava.lang.Object;;",
-            "[Ljava.lang.object;", "[Ljava.lang.String;"};
+            "[Ljava.lang.object;", "[Ljava.lang.String;", "]I", "]Ljava.lang.Object;"};
         for (String name : names) {
             GraphReader x = fresh();
             x.define(0, 1, -1, 0);

@@ -15,6 +15,7 @@ public final class ReadContentTest {
         readsBeforeBegin();
         optionalDoesNotLast();
         faultsUndoAll();
+        asManyObjectsAsBytesAllow();
         CHECKS.end();
     }
 
@@ -184,5 +185,18 @@ public final class ReadContentTest {
         CHECKS.same("HEAP", y.count(2), 1);
         CHECKS.same("HANDLES", y.count(1), 1);
         CHECKS.same("no object 1", y.object(1, 0), GraphReader.REFUSED);
+    }
+
+    private static void asManyObjectsAsBytesAllow() {
+        GraphReader x = fresh();
+        String texts = Hex.text("").repeat(60);
+        Hex.put(x, texts + "79" + texts + "79" + texts + "79" + Hex.text("").repeat(52) + "70");
+        CHECKS.same("BYTES", x.count(4), 700);
+        for (int k = 0; k < 232; k++) {
+            CHECKS.same("text " + k, x.read(), k);
+        }
+        CHECKS.same("HEAP", x.count(2), 232);
+        CHECKS.same("HANDLES", x.count(1), 52);
+        CHECKS.same("the last byte", x.read(), NULL);
     }
 }

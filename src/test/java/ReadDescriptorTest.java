@@ -71,6 +71,7 @@ public final class ReadDescriptorTest {
         CHECKS.fault("02 and 04 where the flags are", BAD_CLASS, fresh(), START + Hex.i8(0) + "06");
         CHECKS.fault("10 with an id where the flags are", BAD_CLASS, fresh(), START + Hex.i8(1L << 63) + "10");
         CHECKS.fault("04 alone goes on", END, fresh(), START + Hex.i8(0) + "04" + "0000");
+        CHECKS.fault("04 and 01 go on", END, fresh(), START + Hex.i8(0) + "05" + "0000");
         CHECKS.fault("04 alone goes on to the end", CORRUPT, fresh(), START + Hex.i8(0) + "04" + "0000" + "78" + "00");
     }
 
@@ -128,6 +129,10 @@ public final class ReadDescriptorTest {
     private static void aboveOneAnother() {
         CHECKS.reads("8 above one another", NULL, fresh(), tower(8, Hex.NULL));
         CHECKS.fault("a 9th", CORRUPT, fresh(), tower(8, "72"));
+        for (String tag : new String[] {"73", "75", "7E"}) {
+            CHECKS.fault("8 behind " + tag, END, fresh(), tag + tower(8, ""));
+            CHECKS.fault("a 9th behind " + tag, CORRUPT, fresh(), tag + tower(8, "72"));
+        }
         CHECKS.fault("itself above", CORRUPT, fresh(), tower(1, Hex.ref(0)));
         CHECKS.fault("one below above", CORRUPT, fresh(), tower(3, Hex.ref(1)));
         CHECKS.fault("a text above", CORRUPT, fresh(), tower(1, Hex.text("a")));
@@ -185,6 +190,9 @@ public final class ReadDescriptorTest {
             GraphReader y = fresh();
             y.define(0, kind, -1, 5);
             CHECKS.reads("another id without 02, kind " + kind, NULL, y, Hex.desc("A", id, flags & ~2, Hex.NULL));
+            GraphReader z = fresh();
+            z.define(0, kind, -1, 5);
+            CHECKS.reads("another id with 01 alone, kind " + kind, NULL, z, Hex.desc("A", id, flags & ~2 | 1, Hex.NULL));
         }
     }
 

@@ -287,6 +287,14 @@ public final class ReadInstanceTest {
         CHECKS.fault("a block that ends behind the EXTRA", GraphReader.END, with(CUSTOM), instance + "770501020304");
         CHECKS.fault("a block without a length", GraphReader.END, with(CUSTOM), instance + "77");
         CHECKS.fault("nothing", GraphReader.END, with(CUSTOM), instance);
+        for (int missing = 0; missing < 6; missing++) {
+            String head = Hex.text("a".repeat(675 - missing)) + instance + "770400000000".substring(0, 2 * missing);
+            GraphReader full = with(CUSTOM);
+            Hex.open(full, head);
+            full.read();
+            CHECKS.same("700 bytes", full.count(4), 700);
+            CHECKS.same("a rest that ends at byte 700", full.read(), GraphReader.END);
+        }
         GraphReader without = with(CUSTOM);
         Hex.open(without, "73" + Hex.desc("A", 0, 2, Hex.NULL) + Hex.block("01020304"));
         CHECKS.same("an instance without a rest", without.read(), 0);
