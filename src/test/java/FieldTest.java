@@ -12,16 +12,8 @@ public final class FieldTest {
         CHECKS.end();
     }
 
-    private static GraphReader withKinds() {
-        GraphReader x = new GraphReader(8, 60, 20, 700);
-        for (int kind = 0; kind <= 4; kind++) {
-            x.define(kind, kind, -1, 0);
-        }
-        return x;
-    }
-
     private static void numbersAreTested() {
-        GraphReader x = withKinds();
+        GraphReader x = Readers.withEveryKind();
         CHECKS.same("class -1", x.field(-1, 0, 0), REFUSED);
         CHECKS.same("class 6", x.field(6, 0, 0), REFUSED);
         CHECKS.same("class not there", x.field(5, 0, 0), REFUSED);
@@ -38,7 +30,7 @@ public final class FieldTest {
     }
 
     private static void fourAtMost() {
-        GraphReader x = withKinds();
+        GraphReader x = Readers.withEveryKind();
         for (int k = 1; k <= 4; k++) {
             CHECKS.same("field " + k, x.field(1, k, k), k);
         }
@@ -46,7 +38,7 @@ public final class FieldTest {
     }
 
     private static void noneTwice() {
-        GraphReader x = withKinds();
+        GraphReader x = Readers.withEveryKind();
         CHECKS.same("a", x.field(1, 0, 0), 1);
         CHECKS.same("a again", x.field(1, 0, 0), REFUSED);
         CHECKS.same("a of another type", x.field(1, 0, 7), REFUSED);
@@ -57,7 +49,7 @@ public final class FieldTest {
     }
 
     private static void notWhileObjectsAreThere() {
-        GraphReader x = withKinds();
+        GraphReader x = Readers.withEveryKind();
         Hex.open(x, Hex.desc("X", 0, 2, Hex.NULL), Hex.text("a"), "00");
         x.read();
         CHECKS.same("with a handle alone", x.field(1, 0, 0), 1);
@@ -67,14 +59,14 @@ public final class FieldTest {
         CHECKS.same("with an object, behind a fault", x.field(1, 1, 0), REFUSED);
         x.begin();
         CHECKS.same("begun again", x.field(1, 1, 0), 2);
-        GraphReader y = withKinds();
+        GraphReader y = Readers.withEveryKind();
         Hex.open(y, Hex.refs(Hex.text("a"), "00"));
         CHECKS.same("a fault behind an object", y.read(), GraphReader.CORRUPT);
         CHECKS.same("the object is gone", y.field(1, 0, 0), 1);
     }
 
     private static void slotsInOrder() {
-        GraphReader x = withKinds();
+        GraphReader x = Readers.withEveryKind();
         x.define(5, 1, 1, 0);
         x.field(5, 2, 2);
         x.field(1, 9, 2);

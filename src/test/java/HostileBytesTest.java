@@ -52,7 +52,7 @@ public final class HostileBytesTest {
 
     private static GraphReader reader(Random random) {
         boolean loose = random.nextInt(4) != 0;
-        GraphReader x = loose ? new GraphReader(8, 60, 20, 700)
+        GraphReader x = loose ? Readers.fresh()
                 : new GraphReader(random.nextInt(9), random.nextInt(61), random.nextInt(21), random.nextInt(701));
         x.define(0, 1, -1, 1);
         x.define(1, 2, 0, 2);

@@ -19,7 +19,7 @@ public final class NewObjectTest {
     }
 
     private static void startsEmpty() {
-        GraphReader x = new GraphReader(8, 60, 20, 700);
+        GraphReader x = Readers.fresh();
         for (int what = 0; what <= 4; what++) {
             CHECKS.same("count(" + what + ") at first", x.count(what), 0);
         }

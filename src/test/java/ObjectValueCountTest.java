@@ -16,7 +16,7 @@ public final class ObjectValueCountTest {
 
     /** The heap: 0 REFS, 1 the text of a signature, 2 an INSTANCE, 3 INTS, 4 a text, 5 a CONSTANT. */
     private static GraphReader withEverySort() {
-        GraphReader x = new GraphReader(8, 60, 20, 700);
+        GraphReader x = Readers.fresh();
         x.define(1, 2, -1, 0);
         x.field(1, 3, 3);
         x.field(1, 0, 7);

@@ -14,7 +14,7 @@ public final class PassBlockTest {
     }
 
     private static GraphReader opened(String... hex) {
-        GraphReader x = new GraphReader(8, 60, 20, 700);
+        GraphReader x = Readers.fresh();
         Hex.open(x, hex);
         return x;
     }
@@ -44,7 +44,7 @@ public final class PassBlockTest {
         GraphReader x = opened("");
         CHECKS.same("at the end", x.passBlock(), REFUSED);
         CHECKS.same("what lasts", x.count(3), 0);
-        CHECKS.same("of a new object", new GraphReader(8, 60, 20, 700).passBlock(), REFUSED);
+        CHECKS.same("of a new object", Readers.fresh().passBlock(), REFUSED);
         GraphReader full = opened(Hex.longBlock("00".repeat(691)));
         CHECKS.same("a block up to byte 700", full.passBlock(), 691);
         CHECKS.same("at byte 700", full.passBlock(), REFUSED);

@@ -16,12 +16,8 @@ public final class PutAndBeginTest {
         CHECKS.end();
     }
 
-    private static GraphReader fresh() {
-        return new GraphReader(8, 60, 20, 700);
-    }
-
     private static void putTestsItsCount() {
-        GraphReader x = fresh();
+        GraphReader x = Readers.fresh();
         for (int count : new int[] {Integer.MIN_VALUE, -1, 0, 9, Integer.MAX_VALUE}) {
             CHECKS.same("put of " + count, x.put(0, count), REFUSED);
         }
@@ -33,7 +29,7 @@ public final class PutAndBeginTest {
 
     private static void putTakesTheLowestHighestFirst() {
         for (int count = 1; count <= 8; count++) {
-            GraphReader x = fresh();
+            GraphReader x = Readers.fresh();
             Hex.put(x, Hex.HEADER + "74" + Hex.u2(count));
             CHECKS.same("put", x.put(0x4142434445464748L, count), 7 + count);
             x.begin();
@@ -45,7 +41,7 @@ public final class PutAndBeginTest {
     }
 
     private static void putEndsAt700() {
-        GraphReader x = fresh();
+        GraphReader x = Readers.fresh();
         for (int k = 1; k <= 87; k++) {
             CHECKS.same("put", x.put(0, 8), 8 * k);
         }
@@ -60,7 +56,7 @@ public final class PutAndBeginTest {
     private static void beginNeedsFour() {
         String[] starts = {"", "AC", "ACED", "ACED00", "000000"};
         for (String start : starts) {
-            GraphReader x = fresh();
+            GraphReader x = Readers.fresh();
             Hex.put(x, start);
             CHECKS.same("begin at " + start, x.begin(), END);
             CHECKS.same("what lasts", x.count(3), END);
@@ -68,7 +64,7 @@ public final class PutAndBeginTest {
             CHECKS.same("read", x.read(), END);
             CHECKS.same("passBlock", x.passBlock(), END);
         }
-        GraphReader x = fresh();
+        GraphReader x = Readers.fresh();
         Hex.put(x, "ACED00");
         x.begin();
         Hex.put(x, "0570");
@@ -79,7 +75,7 @@ public final class PutAndBeginTest {
 
     private static void beginNeedsTheHeader() {
         for (String header : new String[] {"ADED0005", "ACEC0005", "ACED0105", "ACED0004", "0500EDAC", "2CED0005"}) {
-            GraphReader x = fresh();
+            GraphReader x = Readers.fresh();
             Hex.put(x, header, "7700");
             CHECKS.same("begin at " + header, x.begin(), CORRUPT);
             CHECKS.same("what lasts", x.count(3), CORRUPT);
@@ -90,7 +86,7 @@ public final class PutAndBeginTest {
     }
 
     private static void beginEmpties() {
-        GraphReader x = fresh();
+        GraphReader x = Readers.fresh();
         Hex.open(x, Hex.text("a"), "00");
         CHECKS.same("PLACE behind the header", x.count(0), 4);
         CHECKS.same("a text", x.read(), 0);
@@ -107,7 +103,7 @@ public final class PutAndBeginTest {
     }
 
     private static void faultOfBeginEmptiesToo() {
-        GraphReader x = fresh();
+        GraphReader x = Readers.fresh();
         Hex.put(x, Hex.text("a"));
         CHECKS.same("a text without a header", x.read(), 0);
         CHECKS.same("PLACE", x.count(0), 4);

@@ -20,12 +20,8 @@ public final class ReadArrayAndConstantTest {
         CHECKS.end();
     }
 
-    private static GraphReader fresh() {
-        return new GraphReader(8, 60, 20, 700);
-    }
-
     private static GraphReader withConstants() {
-        GraphReader x = fresh();
+        GraphReader x = Readers.fresh();
         x.define(0, 3, -1, 0);
         x.define(1, 3, -1, 0);
         x.constant(0, 0, true);
@@ -35,7 +31,7 @@ public final class ReadArrayAndConstantTest {
     }
 
     private static void ints() {
-        GraphReader x = fresh();
+        GraphReader x = Readers.fresh();
         CHECKS.reads("INTS", 0, x, Hex.ints(1, -1, Integer.MIN_VALUE));
         CHECKS.same("sort", x.object(0, 0), 2);
         CHECKS.same("places", x.object(0, 2), 3);
@@ -44,8 +40,8 @@ public final class ReadArrayAndConstantTest {
         CHECKS.same("place 2", x.value(0, 2), Integer.MIN_VALUE);
         CHECKS.same("HANDLES", x.count(1), 2);
         String hex = Hex.ints(1, 2);
-        CHECKS.fault("a byte less", END, fresh(), hex.substring(0, hex.length() - 2));
-        GraphReader y = fresh();
+        CHECKS.fault("a byte less", END, Readers.fresh(), hex.substring(0, hex.length() - 2));
+        GraphReader y = Readers.fresh();
         Hex.open(y, Hex.ints(), "75" + Hex.ref(0) + Hex.u4(1) + Hex.u4(9), Hex.ref(1));
         CHECKS.same("no places", y.read(), 0);
         CHECKS.same("by the same descriptor", y.read(), 1);
@@ -54,7 +50,7 @@ public final class ReadArrayAndConstantTest {
     }
 
     private static void refs() {
-        GraphReader x = fresh();
+        GraphReader x = Readers.fresh();
         CHECKS.reads("REFS", 0, x, Hex.refs(Hex.text("a"), Hex.NULL, Hex.ref(1), Hex.ref(2), Hex.ints(7)));
         CHECKS.same("sort", x.object(0, 0), 3);
         CHECKS.same("places", x.object(0, 2), 5);
@@ -62,28 +58,28 @@ public final class ReadArrayAndConstantTest {
         for (int k = 0; k < wants.length; k++) {
             CHECKS.same("place " + k, x.value(0, k), wants[k]);
         }
-        CHECKS.fault("a place is missing", END, fresh(), "75" + Hex.desc(OBJECTS, 0, 2, Hex.NULL) + Hex.u4(2) + "70");
-        CHECKS.fault("a block as a place", CORRUPT, fresh(), Hex.refs(Hex.block("")));
+        CHECKS.fault("a place is missing", END, Readers.fresh(), "75" + Hex.desc(OBJECTS, 0, 2, Hex.NULL) + Hex.u4(2) + "70");
+        CHECKS.fault("a block as a place", CORRUPT, Readers.fresh(), Hex.refs(Hex.block("")));
     }
 
     private static void namesOfArrays() {
         String[] names = {"A", "[", "I", "[J", "[II", "[i", "", "[Ljava.lang.Object", "[Ljava.lang.Object;;",
             "[Ljava.lang.object;", "[Ljava.lang.String;", "]I", "]Ljava.lang.Object;"};
         for (String name : names) {
-            GraphReader x = fresh();
+            GraphReader x = Readers.fresh();
             x.define(0, 1, -1, 0);
             CHECKS.fault("an array named " + name, BAD_CLASS, x, "75" + Hex.desc(name, 0, 2, Hex.NULL));
         }
-        CHECKS.reads("any id and flags will do", 0, fresh(), "75" + Hex.desc("[I", 7, 0, Hex.NULL) + Hex.u4(0));
+        CHECKS.reads("any id and flags will do", 0, Readers.fresh(), "75" + Hex.desc("[I", 7, 0, Hex.NULL) + Hex.u4(0));
     }
 
     private static void lengths() {
         for (String name : new String[] {"[I", OBJECTS}) {
             String array = "75" + Hex.desc(name, 0, 2, Hex.NULL);
-            CHECKS.fault("no length", END, fresh(), array + "000000");
-            CHECKS.fault("a length of -1", BAD_OBJECT, fresh(), array + Hex.u4(-1));
-            CHECKS.fault("the lowest length", BAD_OBJECT, fresh(), array + Hex.u4(Integer.MIN_VALUE));
-            CHECKS.fault("the highest length", GraphReader.LIMIT, fresh(), array + Hex.u4(Integer.MAX_VALUE));
+            CHECKS.fault("no length", END, Readers.fresh(), array + "000000");
+            CHECKS.fault("a length of -1", BAD_OBJECT, Readers.fresh(), array + Hex.u4(-1));
+            CHECKS.fault("the lowest length", BAD_OBJECT, Readers.fresh(), array + Hex.u4(Integer.MIN_VALUE));
+            CHECKS.fault("the highest length", GraphReader.LIMIT, Readers.fresh(), array + Hex.u4(Integer.MAX_VALUE));
             CHECKS.fault("BAD_OBJECT before LIMIT", BAD_OBJECT, new GraphReader(1, 1, 0, 4), array + Hex.u4(-1));
         }
     }
