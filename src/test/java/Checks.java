@@ -1,13 +1,21 @@
 /** Collects the answers that are not the ones that are due. */
 final class Checks {
+    private String sentence = "";
+    private int sentences;
     private int wrong;
     private int asked;
+
+    /** What is asked from here on tests this sentence of the document. */
+    void by(String sentence) {
+        this.sentence = sentence;
+        sentences++;
+    }
 
     void same(String what, long got, long want) {
         asked++;
         if (got != want) {
             wrong++;
-            System.out.println(what + " answered " + got + ", due is " + want);
+            System.out.println(what + " answered " + got + ", due is " + want + " by: " + sentence);
         }
     }
 
@@ -30,8 +38,30 @@ final class Checks {
         same(what + ", PLACE", x.count(0), x.count(4));
     }
 
+    /** Reads as often as there are answers. */
+    void readsInTurn(GraphReader x, int... answers) {
+        for (int k = 0; k < answers.length; k++) {
+            same("read " + k, x.read(), answers[k]);
+        }
+    }
+
+    /** PLACE, HANDLES, HEAP, the fault that lasts, and BYTES. */
+    void counts(String what, GraphReader x, int... wants) {
+        for (int k = 0; k < wants.length; k++) {
+            same(what + ", count(" + k + ")", x.count(k), wants[k]);
+        }
+    }
+
+    /** All slots, signs or places of an object, and that there are no others. */
+    void values(String what, GraphReader x, int object, long... wants) {
+        for (int k = 0; k < wants.length; k++) {
+            same(what + ", value " + k, x.value(object, k), wants[k]);
+        }
+        same(what + ", a value behind the last", x.value(object, wants.length), GraphReader.NONE);
+    }
+
     void end() {
-        System.out.println(asked + " answers, " + wrong + " not as due");
+        System.out.println(sentences + " sentences, " + asked + " answers, " + wrong + " not as due");
         if (wrong != 0) {
             System.exit(1);
         }

@@ -3,6 +3,7 @@ final class Hex {
     static final String HEADER = "ACED0005";
     static final String NULL = "70";
     static final String REST_END = "78";
+    static final String OBJECTS = "[Ljava.lang.Object;";
 
     private Hex() {
     }
@@ -48,12 +49,50 @@ final class Hex {
         return field(type, name, "");
     }
 
+    /** A descriptor up to its flags, which come next. */
+    static String untilFlags(String name, long id) {
+        return "72" + utf(name) + i8(id);
+    }
+
+    /** A descriptor up to its rest, which comes next. */
+    static String untilRest(String name, long id, int flags, String... fields) {
+        return untilFlags(name, id) + u1(flags) + u2(fields.length) + String.join("", fields);
+    }
+
     static String desc(String name, long id, int flags, String above, String... fields) {
-        return "72" + utf(name) + i8(id) + u1(flags) + u2(fields.length) + String.join("", fields) + REST_END + above;
+        return untilRest(name, id, flags, fields) + REST_END + above;
+    }
+
+    /** A descriptor with the id 0 that has nothing above it and no fields. */
+    static String desc(String name) {
+        return desc(name, 0, 2, NULL);
+    }
+
+    static String constantDesc(String name) {
+        return desc(name, 0, 0x12, NULL);
+    }
+
+    /** So many descriptors above one another, and above them what is given. */
+    static String tower(int height, String top) {
+        String hex = top;
+        for (int k = 0; k < height; k++) {
+            hex = desc("X", 0, 2, hex);
+        }
+        return hex;
+    }
+
+    /** So many descriptors, each in the rest of the one before it, up to where the innermost rest begins. */
+    static String restsWithin(int depth) {
+        return untilRest("X", 0, 2).repeat(depth);
+    }
+
+    /** What ends so many rests within one another. */
+    static String endOfRests(int depth) {
+        return (REST_END + NULL).repeat(depth);
     }
 
     static String ints(int... numbers) {
-        StringBuilder hex = new StringBuilder("75" + desc("[I", 0, 2, NULL) + u4(numbers.length));
+        StringBuilder hex = new StringBuilder("75" + desc("[I") + u4(numbers.length));
         for (int number : numbers) {
             hex.append(u4(number));
         }
@@ -61,7 +100,7 @@ final class Hex {
     }
 
     static String refs(String... contents) {
-        return "75" + desc("[Ljava.lang.Object;", 0, 2, NULL) + u4(contents.length) + String.join("", contents);
+        return "75" + desc(OBJECTS) + u4(contents.length) + String.join("", contents);
     }
 
     static String block(String hex) {
@@ -70,6 +109,10 @@ final class Hex {
 
     static String longBlock(String hex) {
         return "7A" + u4(hex.length() / 2) + hex;
+    }
+
+    static int size(String hex) {
+        return hex.length() / 2;
     }
 
     static void put(GraphReader x, String... parts) {

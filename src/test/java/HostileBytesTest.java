@@ -10,6 +10,7 @@ public final class HostileBytesTest {
     private static final int READS = 40;
 
     public static void main(String[] args) {
+        CHECKS.by("A READ from outside that ends in a fault leaves HEAP, HANDLES and PLACE as they were before it");
         Random random = new Random(20261115);
         String[] seeds = seeds();
         for (int round = 0; round < ROUNDS; round++) {
@@ -77,10 +78,10 @@ public final class HostileBytesTest {
     private static long readAll(int round, GraphReader x) {
         long seen = 0;
         for (int k = 0; k < READS && x.count(3) == 0; k++) {
-            long before = state(x);
+            long before = Readers.seen(x);
             int answer = x.read();
             if (answer < GraphReader.NULL) {
-                CHECKS.same("a fault leaves all as it was in round " + round, state(x), before);
+                CHECKS.same("a fault leaves all as it was in round " + round, Readers.seen(x), before);
                 int lasting = answer == GraphReader.OPTIONAL ? 0 : answer;
                 CHECKS.same("what lasts in round " + round, x.count(3), lasting);
             }
@@ -89,23 +90,8 @@ public final class HostileBytesTest {
                 k = answer == GraphReader.REFUSED ? READS : k;
             }
             seen = 31 * seen + answer;
-            seen = 31 * seen + state(x);
+            seen = 31 * seen + Readers.seen(x);
         }
         return seen;
-    }
-
-    private static long state(GraphReader x) {
-        long sum = x.count(0) * 1000003L + x.count(1) * 1009L + x.count(2);
-        for (int object = 0; object < x.count(2); object++) {
-            for (int what = 0; what < 4; what++) {
-                sum = 31 * sum + x.object(object, what);
-            }
-            int size = x.object(object, 0) == 4 ? 0 : x.object(object, 2);
-            for (int k = 0; k < size; k++) {
-                sum = 31 * sum + x.value(object, k);
-            }
-            CHECKS.same("a value behind the last in round", x.value(object, size), GraphReader.NONE);
-        }
-        return sum;
     }
 }

@@ -4,148 +4,270 @@ public final class LimitsTest {
     private static final int NULL = GraphReader.NULL;
     private static final int LIMIT = GraphReader.LIMIT;
     private static final int END = GraphReader.END;
-    private static final String A = Hex.desc("A", 0, 2, Hex.NULL);
-    private static final String CONSTANT = Hex.desc("B", 0, 0x12, Hex.NULL);
+    private static final int MOST = 1000;
+    private static final String A = Hex.desc("A");
+    private static final String CONSTANT = Hex.constantDesc("B");
+    // What asks limits: an instance, INTS, REFS, a constant up to where its name is read.
+    private static final String[] ASKING = {"73" + A, Hex.ints(), Hex.refs(), "7E" + CONSTANT};
+    private static final String[] BEHIND = {"", "", "", Hex.text("a")};
 
     public static void main(String[] args) {
-        depthOfEachSort();
-        handlesOfEachSort();
-        placeOfEachSort();
-        limitsComeFirst();
-        deeperThanEight();
-        moreThanSixtyHandles();
+        depthAboveD();
+        everyWayDeeper();
+        handlesAboveR();
+        entriesOfItsOwnDoNotCount();
+        lengthAboveA();
+        onlyArraysHaveALength();
+        placeAboveB();
+        placeBehindTheAsking();
+        barred();
+        othersAskNoLimits();
+        beforeOtherFaultsOfAnInstance();
+        beforeOtherFaultsOfAConstant();
+        behindOtherFaultsOfAnArray();
+        beforeAnythingIsMade();
+        deeperThan8();
+        deeperThan8NeedsNoByte();
+        blocksAreNoReads();
+        moreThan60Handles();
+        moreThan60HandlesDeeper();
+        entriesBeyond60();
         CHECKS.end();
     }
 
     private static GraphReader reader(int depth, int handles, int length, int bytes) {
         GraphReader x = new GraphReader(depth, handles, length, bytes);
-        x.define(0, 1, -1, 0);
-        x.define(1, 3, -1, 0);
+        x.define(0, Readers.SERIAL, -1, 0);
+        x.define(1, Readers.CONSTANT, -1, 0);
         x.constant(1, 0, true);
         return x;
     }
 
-    private static void depthOfEachSort() {
-        String[] asking = {"73" + A, Hex.ints(1), Hex.refs(), "7E" + CONSTANT + Hex.text("a")};
-        for (String content : asking) {
-            CHECKS.fault("depth 3 under 2", LIMIT, reader(2, 60, 20, 700), Hex.refs(Hex.refs(content)));
-            CHECKS.reads("depth 3 under 3", 0, reader(3, 60, 20, 700), Hex.refs(Hex.refs(content)));
-        }
-        String[] others = {Hex.text("a"), Hex.NULL, Hex.ref(1), A};
-        for (String content : others) {
-            CHECKS.reads("depth 2 under 1", 0, reader(1, 60, 20, 700), Hex.refs(content));
-        }
-        GraphReader x = reader(1, 60, 20, 700);
-        x.field(0, 0, 7);
-        CHECKS.fault("a field is one deeper", LIMIT, x,
-                "73" + Hex.desc("A", 0, 2, Hex.NULL, Hex.field('L', "a", Hex.text("s"))) + Hex.ints());
-        CHECKS.fault("a rest is one deeper", LIMIT, reader(1, 60, 20, 700),
-                "73" + Hex.desc("A", 0, 3, Hex.NULL) + Hex.ints() + "78");
-        CHECKS.fault("a constant's name is one deeper", LIMIT, reader(1, 60, 20, 700), "7E" + CONSTANT + Hex.ints());
-    }
-
-    private static void handlesOfEachSort() {
-        String[] asking = {"73" + A, Hex.ints(1), Hex.refs(), "7E" + CONSTANT + Hex.text("a")};
-        for (String content : asking) {
-            for (int handles = 1; handles <= 4; handles++) {
-                GraphReader x = reader(8, handles, 20, 700);
-                Hex.open(x, Hex.text(""), Hex.text(""), content);
-                CHECKS.same("a text", x.read(), 0);
-                CHECKS.same("a text, whatever the limit", x.read(), 1);
-                boolean passes = x.read() >= 0;
-                CHECKS.same("3 handles under " + handles, passes ? 1 : 0, handles >= 3 ? 1 : 0);
+    private static void depthAboveD() {
+        CHECKS.by("LIMIT if the DEPTH is above D");
+        for (int k = 0; k < ASKING.length; k++) {
+            String content = ASKING[k] + BEHIND[k];
+            for (int depth = 1; depth <= 4; depth++) {
+                String stream = Hex.restsWithin(depth - 1) + content + Hex.endOfRests(depth - 1);
+                GraphReader within = reader(depth, MOST, MOST, MOST);
+                Hex.open(within, stream);
+                CHECKS.same("depth " + depth + " of content " + k, within.read() < NULL ? 0 : 1, 1);
+                CHECKS.fault("depth " + (depth + 1) + " of content " + k, LIMIT, reader(depth, MOST, MOST, MOST),
+                        Hex.restsWithin(1) + stream + Hex.endOfRests(1));
             }
         }
     }
 
-    private static void placeOfEachSort() {
-        String[] asking = {"73" + A, Hex.ints(), Hex.refs(), "7E" + CONSTANT};
-        for (int k = 0; k < asking.length; k++) {
-            int place = 4 + asking[k].length() / 2;
-            String tail = k == 3 ? Hex.text("a") : "";
-            CHECKS.fault("PLACE above the limit", LIMIT, reader(8, 60, 20, place - 1), asking[k] + tail);
-            GraphReader x = reader(8, 60, 20, place);
-            Hex.open(x, asking[k] + tail);
-            CHECKS.same("PLACE at the limit", x.read(), k == 3 ? 1 : 0);
+    private static void everyWayDeeper() {
+        CHECKS.by("(a READ from outside is at DEPTH 1, one within another one deeper)");
+        String objectField = Hex.field('L', "a", Hex.text("s"));
+        String[] ways = {"73" + Hex.desc("A", 0, 2, Hex.NULL, objectField), "73" + Hex.desc("A", 0, 3, Hex.NULL),
+            Hex.untilRest("X", 0, 2), Hex.untilFlags("X", 0) + "02" + "0001" + Hex.field('L', "a"),
+            "75" + Hex.desc(Hex.OBJECTS) + Hex.u4(1), "7E" + CONSTANT};
+        for (int k = 0; k < ways.length; k++) {
+            GraphReader x = reader(1, MOST, MOST, MOST);
+            x.field(0, 0, 7);
+            CHECKS.fault("way " + k, LIMIT, x, ways[k] + Hex.ints());
         }
-        CHECKS.reads("INTS behind the limit", 0, reader(8, 60, 20, 4 + Hex.ints().length() / 2), Hex.ints(1, 2, 3));
+        CHECKS.fault("a field of the class above is as deep", LIMIT, reader(1, MOST, MOST, MOST),
+                "73" + Hex.desc("A", 0, 2, Hex.desc("X", 0, 2, Hex.NULL, objectField)) + Hex.ints());
+        CHECKS.reads("a field of the class above is no deeper", 1, reader(2, MOST, MOST, MOST),
+                "73" + Hex.desc("A", 0, 2, Hex.desc("X", 0, 2, Hex.NULL, objectField)) + Hex.ints());
     }
 
-    private static void limitsComeFirst() {
-        CHECKS.fault("before UNKNOWN", LIMIT, reader(8, 60, 20, 4), "73" + Hex.desc("F", 0, 2, Hex.NULL));
-        CHECKS.fault("before BAD_CLASS of an instance", LIMIT, reader(8, 60, 20, 4), "73" + CONSTANT);
-        CHECKS.fault("before BAD_CLASS of a constant", LIMIT, reader(8, 60, 20, 4), "7E" + A);
-        CHECKS.fault("behind NULL", GraphReader.CORRUPT, reader(8, 60, 20, 4), "73" + Hex.NULL);
-        CHECKS.fault("behind an array's name", GraphReader.BAD_CLASS, reader(8, 60, 20, 4), "75" + A);
-        CHECKS.fault("behind an array's length", END, reader(8, 60, 20, 4), "75" + Hex.desc("[I", 0, 2, Hex.NULL));
-        CHECKS.fault("before places are read", LIMIT, reader(8, 60, 3, 700),
-                "75" + Hex.desc("[I", 0, 2, Hex.NULL) + Hex.u4(4));
-        CHECKS.reads("at the length", 0, reader(8, 60, 3, 700), Hex.ints(1, 2, 3));
-        CHECKS.reads("an instance has no length", 0, reader(8, 60, 0, 700), "73" + A);
-        CHECKS.reads("a constant has no length", 1, reader(8, 60, 0, 700), "7E" + CONSTANT + Hex.text("a"));
-    }
-
-    /** So many descriptors, each in the rest of the one before it, up to where the next would begin. */
-    private static String restsWithin(int depth) {
-        return ("72" + Hex.utf("X") + Hex.i8(0) + "02" + "0000").repeat(depth);
-    }
-
-    private static void deeperThanEight() {
-        CHECKS.fault("at depth 8 a byte is needed", END, reader(8, 60, 20, 700),
-                restsWithin(7) + "7200015800000000000000000200014C0001");
-        CHECKS.fault("a read at depth 9 needs no byte", LIMIT, reader(8, 60, 20, 700),
-                restsWithin(7) + "72" + Hex.utf("X") + Hex.i8(0) + "02" + "0001" + Hex.field('L', "a"));
-        CHECKS.fault("a place at depth 9 needs no byte", LIMIT, reader(8, 60, 20, 700),
-                restsWithin(7) + "75" + Hex.desc("[Ljava.lang.Object;", 0, 2, Hex.NULL) + Hex.u4(1));
-        CHECKS.fault("a constant's name at depth 9", LIMIT, reader(8, 60, 20, 700), restsWithin(7) + "7E" + CONSTANT);
-        CHECKS.fault("a rest needs a byte", END, reader(8, 60, 20, 700), restsWithin(8));
-        CHECKS.fault("NULL in a rest at depth 9", LIMIT, reader(8, 60, 20, 700), restsWithin(8) + Hex.NULL);
-        CHECKS.reads("blocks in a rest at depth 8", NULL, reader(8, 60, 20, 700),
-                restsWithin(8) + Hex.block("00") + "7870".repeat(8));
-        String[] readersOfDepth8 = {Hex.text("a"), "7E" + CONSTANT + Hex.text("a"), Hex.refs(Hex.text("a")),
-            Hex.desc("X", 0, 2, Hex.NULL, Hex.field('L', "a", Hex.text("s"))),
-            "73" + Hex.desc("A", 0, 3, Hex.NULL) + Hex.text("a") + "78",
-            "73" + Hex.desc("A", 0, 2, Hex.NULL, Hex.field('L', "a", Hex.text("s"))) + Hex.text("a")};
-        for (String content : readersOfDepth8) {
-            CHECKS.reads("a text at depth 8 or 7", NULL, reader(8, 60, 20, 700),
-                    restsWithin(6) + content + "7870".repeat(6));
+    private static void handlesAboveR() {
+        CHECKS.by("HANDLES are more than R");
+        for (int k = 0; k < ASKING.length; k++) {
+            for (int handles = 1; handles <= 6; handles++) {
+                GraphReader x = Readers.behindTexts(reader(8, handles, MOST, MOST), 3, ASKING[k] + BEHIND[k]);
+                CHECKS.same("4 under " + handles, x.read() < NULL ? LIMIT : 0, handles < 4 ? LIMIT : 0);
+            }
         }
-        CHECKS.reads("a text at depth 8", NULL, reader(8, 60, 20, 700),
-                restsWithin(7) + Hex.text("a") + "7870".repeat(7));
     }
 
-    private static GraphReader behindTexts(int texts, String tail) {
-        GraphReader x = reader(8, 60, 20, 700);
-        Hex.open(x, Hex.text("").repeat(texts), tail);
-        for (int k = 0; k < texts; k++) {
-            CHECKS.same("a text", x.read(), k);
+    private static void entriesOfItsOwnDoNotCount() {
+        CHECKS.by("HANDLES are more than R");
+        for (int k = 0; k < ASKING.length; k++) {
+            GraphReader x = reader(8, 1, MOST, MOST);
+            Hex.open(x, ASKING[k] + BEHIND[k]);
+            CHECKS.same("content " + k, x.read() < NULL ? 0 : 1, 1);
+            CHECKS.same("its descriptor, its own and a name's", x.count(1), k == 3 ? 3 : 2);
         }
-        return x;
+        GraphReader y = reader(8, 1, MOST, MOST);
+        Hex.open(y, Hex.text("a"), "79" + "73" + A);
+        CHECKS.readsInTurn(y, 0, 1);
     }
 
-    private static void moreThanSixtyHandles() {
-        CHECKS.same("60 handles and no byte", behindTexts(60, "").read(), END);
-        CHECKS.same("60 handles", behindTexts(60, Hex.text("")).read(), 60);
-        CHECKS.same("61 handles and no byte", behindTexts(61, "").read(), LIMIT);
-        CHECKS.same("61 handles and NULL", behindTexts(61, Hex.NULL).read(), LIMIT);
-        CHECKS.same("61 handles and a block", behindTexts(61, Hex.block("")).read(), LIMIT);
-        GraphReader x = behindTexts(61, "7970");
-        CHECKS.same("61 handles and a reset", x.read(), LIMIT);
-        CHECKS.same("it lasts", x.count(3), LIMIT);
-        CHECKS.same("HANDLES", x.count(1), 61);
-        CHECKS.same("60 handles and a reset", behindTexts(60, "79" + Hex.text("")).read(), 60);
-        String eight = Hex.desc("X", 0, 2, Hex.NULL);
-        for (int k = 0; k < 7; k++) {
-            eight = Hex.desc("X", 0, 2, eight);
+    private static void lengthAboveA() {
+        CHECKS.by("a length is above A");
+        for (int length = 0; length <= 20; length++) {
+            CHECKS.reads("INTS at " + length, 0, reader(8, MOST, length, MOST), Hex.ints(new int[length]));
+            CHECKS.fault("INTS above " + length, LIMIT, reader(8, MOST, length, MOST), Hex.ints(new int[length + 1]));
+            String refs = "75" + Hex.desc(Hex.OBJECTS) + Hex.u4(length);
+            CHECKS.reads("REFS at " + length, 0, reader(8, MOST, length, MOST), refs + Hex.NULL.repeat(length));
+            CHECKS.fault("REFS above " + length, LIMIT, reader(8, MOST, length, MOST),
+                    "75" + Hex.desc(Hex.OBJECTS) + Hex.u4(length + 1) + Hex.NULL.repeat(length + 1));
         }
-        GraphReader y = behindTexts(60, eight);
-        CHECKS.same("descriptors may go beyond 60", y.read(), NULL);
-        CHECKS.same("HANDLES", y.count(1), 68);
-        CHECKS.same("but no read behind them", y.read(), LIMIT);
-        String blocks = "72" + Hex.utf("X") + Hex.i8(0) + "02" + "0000" + Hex.block("00") + "78" + Hex.NULL;
-        CHECKS.same("blocks in a rest with 61 handles", behindTexts(60, blocks).read(), NULL);
-        String within = "72" + Hex.utf("X") + Hex.i8(0) + "02" + "0000" + Hex.NULL + "78" + Hex.NULL;
-        CHECKS.same("a read in a rest with 61 handles", behindTexts(60, within).read(), LIMIT);
-        CHECKS.same("a read in a rest with 60 handles", behindTexts(59, within).read(), NULL);
+    }
+
+    private static void onlyArraysHaveALength() {
+        CHECKS.by("a length is above A");
+        GraphReader x = reader(8, MOST, 0, MOST);
+        Readers.addFields(x, 0, 0, 0, 0, 0);
+        CHECKS.reads("an instance of 4 SLOTS", 0, x, "73" + A);
+        CHECKS.reads("a constant", 1, reader(8, MOST, 0, MOST), "7E" + CONSTANT + Hex.text("a"));
+        CHECKS.reads("a text", 0, reader(8, MOST, 0, MOST), Hex.text("a".repeat(100)));
+        CHECKS.reads("a block", NULL, reader(8, MOST, 0, MOST), Hex.untilRest("X", 0, 2) + Hex.block("0102") + "7870");
+    }
+
+    private static void placeAboveB() {
+        CHECKS.by("PLACE is above B");
+        for (int k = 0; k < ASKING.length; k++) {
+            int place = 4 + Hex.size(ASKING[k]);
+            CHECKS.fault("content " + k + " above B", LIMIT, reader(8, MOST, MOST, place - 1), ASKING[k] + BEHIND[k]);
+            GraphReader x = reader(8, MOST, MOST, place);
+            Hex.open(x, ASKING[k] + BEHIND[k]);
+            CHECKS.same("content " + k + " at B", x.read(), k == 3 ? 1 : 0);
+        }
+    }
+
+    private static void placeBehindTheAsking() {
+        CHECKS.by("PLACE is above B");
+        GraphReader x = reader(8, MOST, MOST, 4 + Hex.size(Hex.ints()));
+        Hex.open(x, Hex.ints(1, 2, 3), Hex.text("a"), "75" + Hex.ref(0) + Hex.u4(0));
+        CHECKS.readsInTurn(x, 0, 1, LIMIT);
+    }
+
+    private static void barred() {
+        CHECKS.by("or the DESCRIPTOR's local class is one that was barred.");
+        GraphReader x = reader(8, MOST, MOST, MOST);
+        x.constant(0, 0, true);
+        CHECKS.fault("an instance", LIMIT, x, "73" + A);
+        GraphReader y = reader(8, MOST, MOST, MOST);
+        y.constant(0, 0, true);
+        CHECKS.fault("before BAD_CLASS of a constant", LIMIT, y, "7E" + A + Hex.text("a"));
+        GraphReader z = reader(8, MOST, MOST, MOST);
+        z.define(2, Readers.PLAIN, -1, 0);
+        z.constant(2, 0, true);
+        CHECKS.fault("before BAD_CLASS of a PLAIN class", LIMIT, z, "73" + Hex.desc("C"));
+    }
+
+    private static void othersAskNoLimits() {
+        CHECKS.by("LIMITS are asked: LIMIT if the DEPTH is above D; HANDLES are more than R; a length is above A; PLACE is above B; or the DESCRIPTOR's local class is one that was barred.");
+        String[] others = {Hex.text("a"), Hex.NULL, Hex.ref(0), Hex.desc("A")};
+        for (int k = 0; k < others.length; k++) {
+            GraphReader x = reader(1, 1, 0, 4);
+            x.constant(0, 0, true);
+            Readers.behindTexts(x, 3, others[k], Hex.restsWithin(1) + others[k] + Hex.endOfRests(1));
+            CHECKS.same("content " + k, x.read() < NULL ? LIMIT : 0, 0);
+            CHECKS.same("content " + k + ", deeper", x.read(), NULL);
+        }
+    }
+
+    private static void beforeOtherFaultsOfAnInstance() {
+        CHECKS.by("73: a DESCRIPTOR is read; NULL: CORRUPT. LIMITS are asked.");
+        GraphReader plain = reader(8, MOST, MOST, 4);
+        plain.define(2, Readers.PLAIN, -1, 0);
+        CHECKS.fault("BAD_CLASS of a PLAIN class", LIMIT, plain, "73" + Hex.desc("C"));
+        CHECKS.fault("BAD_CLASS of a constant", LIMIT, reader(8, MOST, MOST, 4), "73" + CONSTANT);
+        CHECKS.fault("UNKNOWN", LIMIT, reader(8, MOST, MOST, 4), "73" + Hex.desc("F"));
+        CHECKS.fault("but behind NULL", GraphReader.CORRUPT, reader(8, MOST, MOST, 4), "73" + Hex.NULL);
+    }
+
+    private static void beforeOtherFaultsOfAConstant() {
+        CHECKS.by("LIMITS; it must be of a CONSTANT (BAD_CLASS)");
+        CHECKS.fault("BAD_CLASS", LIMIT, reader(8, MOST, MOST, 4), "7E" + A);
+        CHECKS.fault("UNKNOWN", LIMIT, reader(8, MOST, MOST, 4), "7E" + Hex.constantDesc("F"));
+        CHECKS.fault("but behind NULL", GraphReader.CORRUPT, reader(8, MOST, MOST, 4), "7E" + Hex.NULL);
+    }
+
+    private static void behindOtherFaultsOfAnArray() {
+        CHECKS.by("U4, the length, below 0: BAD_OBJECT; LIMITS are asked with it.");
+        CHECKS.fault("NULL", GraphReader.CORRUPT, reader(1, 1, 0, 4), "75" + Hex.NULL);
+        CHECKS.fault("its name", GraphReader.BAD_CLASS, reader(1, 1, 0, 4), "75" + A);
+        CHECKS.fault("no length", END, reader(1, 1, 0, 4), "75" + Hex.desc("[I"));
+        CHECKS.fault("a length below 0", GraphReader.BAD_OBJECT, reader(1, 1, 0, 4), "75" + Hex.desc("[I") + Hex.u4(-1));
+    }
+
+    private static void beforeAnythingIsMade() {
+        CHECKS.by("LIMITS are asked with it. An entry: INTS or REFS of that length; then for each place U4, or a READ one deeper.");
+        CHECKS.fault("before places are read", LIMIT, reader(8, MOST, 3, MOST), "75" + Hex.desc("[I") + Hex.u4(4));
+        CHECKS.fault("before a wrong place", LIMIT, reader(8, MOST, 0, MOST), "75" + Hex.desc(Hex.OBJECTS) + Hex.u4(1) + "00");
+        CHECKS.fault("before wrong data", LIMIT, reader(8, MOST, MOST, 4), "73" + Hex.desc("A", 0, 3, Hex.NULL) + "00");
+        CHECKS.fault("before a wrong name", LIMIT, reader(8, MOST, MOST, 4), "7E" + CONSTANT + "00");
+    }
+
+    private static void deeperThan8() {
+        CHECKS.by("(A READ deeper than 8, or with more than 60 HANDLES: LIMIT at its beginning, before it needs a byte.)");
+        String[] contents = {Hex.NULL, Hex.text("a"), Hex.ref(9), Hex.desc("Y"), "7B", "79", "00"};
+        for (int k = 0; k < contents.length; k++) {
+            CHECKS.fault("content " + k + " at depth 9", LIMIT, reader(8, MOST, MOST, MOST), Hex.restsWithin(8) + contents[k]);
+        }
+        for (int k = 0; k < 4; k++) {
+            GraphReader x = reader(8, MOST, MOST, MOST);
+            String content = k == 2 ? Hex.NULL : contents[k];
+            CHECKS.reads("content " + k + " at depth 8", NULL, x, Hex.restsWithin(7) + content + Hex.endOfRests(7));
+        }
+    }
+
+    private static void deeperThan8NeedsNoByte() {
+        CHECKS.by("(A READ deeper than 8, or with more than 60 HANDLES: LIMIT at its beginning, before it needs a byte.)");
+        String known = Hex.desc("A", 0, 2, Hex.NULL, Hex.field('L', "a", Hex.text("s")));
+        String[] ways = {"73" + Hex.ref(0), Hex.untilFlags("X", 0) + "02" + "0001" + Hex.field('L', "a"),
+            "75" + Hex.desc(Hex.OBJECTS) + Hex.u4(1), "7E" + CONSTANT};
+        for (int k = 0; k < ways.length; k++) {
+            GraphReader x = reader(8, MOST, MOST, MOST);
+            Hex.open(x, known, Hex.restsWithin(6) + ways[k]);
+            CHECKS.readsInTurn(x, NULL, END);
+            GraphReader y = reader(8, MOST, MOST, MOST);
+            Hex.open(y, known, Hex.restsWithin(7) + ways[k]);
+            CHECKS.readsInTurn(y, NULL, LIMIT);
+        }
+    }
+
+    private static void blocksAreNoReads() {
+        CHECKS.by("(A READ deeper than 8, or with more than 60 HANDLES: LIMIT at its beginning, before it needs a byte.)");
+        CHECKS.fault("a rest at depth 8 needs a byte", END, reader(8, MOST, MOST, MOST), Hex.restsWithin(8));
+        CHECKS.reads("blocks in a rest at depth 8", NULL, reader(8, MOST, MOST, MOST),
+                Hex.restsWithin(8) + Hex.block("00") + Hex.longBlock("00") + Hex.endOfRests(8));
+        GraphReader x = Readers.behindTexts(60, Hex.untilRest("X", 0, 2) + Hex.block("00") + "78" + Hex.NULL);
+        CHECKS.same("blocks in a rest with 61", x.read(), NULL);
+        GraphReader y = Readers.behindTexts(61, Hex.block("0102"));
+        CHECKS.same("passBlock with 61", y.passBlock(), 2);
+    }
+
+    private static void moreThan60Handles() {
+        CHECKS.by("(A READ deeper than 8, or with more than 60 HANDLES: LIMIT at its beginning, before it needs a byte.)");
+        CHECKS.same("60 and no byte", Readers.behindTexts(60).read(), END);
+        CHECKS.same("60 and a text", Readers.behindTexts(60, Hex.text("")).read(), 60);
+        CHECKS.same("60 and a reset", Readers.behindTexts(60, "79" + Hex.text("")).read(), 60);
+        for (String content : new String[] {"", Hex.NULL, Hex.block(""), "78", "7B", "00", "79" + Hex.NULL, Hex.text("")}) {
+            GraphReader x = Readers.behindTexts(61, content);
+            int place = x.count(0);
+            CHECKS.same("61 and " + content, x.read(), LIMIT);
+            CHECKS.counts("61 and " + content, x, place, 61, 61, LIMIT);
+        }
+    }
+
+    private static void moreThan60HandlesDeeper() {
+        CHECKS.by("(A READ deeper than 8, or with more than 60 HANDLES: LIMIT at its beginning, before it needs a byte.)");
+        String within = Hex.untilRest("X", 0, 2) + Hex.NULL + "78" + Hex.NULL;
+        CHECKS.same("60 deeper", Readers.behindTexts(59, within).read(), NULL);
+        CHECKS.same("61 deeper", Readers.behindTexts(60, within).read(), LIMIT);
+        String needsNoByte = Hex.untilFlags("X", 0) + "02" + "0001" + Hex.field('L', "a");
+        CHECKS.same("60 deeper and no byte", Readers.behindTexts(59, needsNoByte).read(), END);
+        CHECKS.same("61 deeper and no byte", Readers.behindTexts(60, needsNoByte).read(), LIMIT);
+    }
+
+    private static void entriesBeyond60() {
+        CHECKS.by("(A READ deeper than 8, or with more than 60 HANDLES: LIMIT at its beginning, before it needs a byte.)");
+        GraphReader x = Readers.behindTexts(60, Hex.tower(8, Hex.NULL), Hex.NULL);
+        CHECKS.same("eight entries more in one read", x.read(), NULL);
+        CHECKS.same("HANDLES", x.count(1), 68);
+        CHECKS.same("but no read behind them", x.read(), LIMIT);
+        GraphReader y = reader(8, 60, MOST, MOST);
+        Readers.behindTexts(y, 59, "73" + A);
+        CHECKS.same("an instance's own entry is the 61st", y.read(), 59);
+        CHECKS.same("HANDLES", y.count(1), 61);
     }
 }
