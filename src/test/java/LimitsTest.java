@@ -58,21 +58,27 @@ public final class LimitsTest {
         }
     }
 
+    /** Streams up to where a read one deeper than the first begins, in each way that there is. */
+    private static String[] waysDeeper() {
+        String inARest = Hex.untilRest("X", 0, 2);
+        String inAField = Hex.untilFlags("X", 0) + "02" + "0001" + Hex.field('L', "a");
+        String objectField = Hex.field('L', "a", Hex.text("s"));
+        return new String[] {"75" + Hex.desc(Hex.OBJECTS) + Hex.u4(1), "7E" + CONSTANT,
+            "73" + Hex.desc("A", 0, 2, Hex.NULL, objectField), "73" + Hex.desc("A", 0, 3, Hex.NULL),
+            "73" + Hex.desc("A", 0, 2, Hex.desc("X", 0, 2, Hex.NULL, objectField)),
+            "73" + Hex.desc("A", 0, 2, Hex.desc("X", 0, 3, Hex.NULL)),
+            inARest, inAField, "73" + inARest, "73" + inAField, "75" + inARest, "75" + inAField,
+            "7E" + inARest, "7E" + inAField, Hex.tower(1, inARest), Hex.tower(7, inARest), Hex.tower(7, inAField)};
+    }
+
     private static void everyWayDeeper() {
         CHECKS.by("(a READ from outside is at DEPTH 1, one within another one deeper)");
-        String objectField = Hex.field('L', "a", Hex.text("s"));
-        String[] ways = {"73" + Hex.desc("A", 0, 2, Hex.NULL, objectField), "73" + Hex.desc("A", 0, 3, Hex.NULL),
-            Hex.untilRest("X", 0, 2), Hex.untilFlags("X", 0) + "02" + "0001" + Hex.field('L', "a"),
-            "75" + Hex.desc(Hex.OBJECTS) + Hex.u4(1), "7E" + CONSTANT};
+        String content = "75" + Hex.desc("[I") + Hex.u4(1);
+        String[] ways = waysDeeper();
         for (int k = 0; k < ways.length; k++) {
-            GraphReader x = reader(1, MOST, MOST, MOST);
-            x.field(0, 0, 7);
-            CHECKS.fault("way " + k, LIMIT, x, ways[k] + Hex.ints());
+            CHECKS.fault("way " + k + " under 1", LIMIT, reader(1, MOST, MOST, MOST), ways[k] + content);
+            CHECKS.fault("way " + k + " under 2", END, reader(2, MOST, MOST, MOST), ways[k] + content);
         }
-        CHECKS.fault("a field of the class above is as deep", LIMIT, reader(1, MOST, MOST, MOST),
-                "73" + Hex.desc("A", 0, 2, Hex.desc("X", 0, 2, Hex.NULL, objectField)) + Hex.ints());
-        CHECKS.reads("a field of the class above is no deeper", 1, reader(2, MOST, MOST, MOST),
-                "73" + Hex.desc("A", 0, 2, Hex.desc("X", 0, 2, Hex.NULL, objectField)) + Hex.ints());
     }
 
     private static void handlesAboveR() {

@@ -55,23 +55,24 @@ public final class PassBlockTest {
         CHECKS.same("when a block has come", x.passBlock(), 1);
     }
 
+    private static void passes(String block, int length) {
+        GraphReader x = Readers.opened(block, Hex.text("a"));
+        CHECKS.same("a block of " + length, x.passBlock(), length);
+        CHECKS.same("PLACE", x.count(0), 4 + Hex.size(block));
+        CHECKS.same("a text behind it", x.read(), 0);
+    }
+
     private static void blockOfEveryLength() {
         CHECKS.by("Else the block is passed as in REST; answers its length");
         for (int length = 0; length < 256; length++) {
-            GraphReader x = Readers.opened(Hex.block("77".repeat(length)), Hex.text("a"));
-            CHECKS.same("a block of " + length, x.passBlock(), length);
-            CHECKS.same("PLACE", x.count(0), 6 + length);
-            CHECKS.same("a text behind it", x.read(), 0);
+            passes(Hex.block("77".repeat(length)), length);
         }
     }
 
     private static void longBlocks() {
         CHECKS.by("Else the block is passed as in REST; answers its length");
         for (int length : new int[] {0, 1, 4, 127, 128, 255, 256, 300}) {
-            GraphReader x = Readers.opened(Hex.longBlock("7A".repeat(length)), Hex.text("a"));
-            CHECKS.same("a block of " + length, x.passBlock(), length);
-            CHECKS.same("PLACE", x.count(0), 9 + length);
-            CHECKS.same("a text behind it", x.read(), 0);
+            passes(Hex.longBlock("7A".repeat(length)), length);
         }
     }
 
