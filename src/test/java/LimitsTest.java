@@ -205,14 +205,15 @@ public final class LimitsTest {
 
     private static void deeperThan8() {
         CHECKS.by("(A READ deeper than 8, or with more than 60 HANDLES: LIMIT at its beginning, before it needs a byte.)");
-        String[] contents = {Hex.NULL, Hex.text("a"), Hex.ref(9), Hex.desc("Y"), "7B", "79", "00"};
-        for (int k = 0; k < contents.length; k++) {
-            CHECKS.fault("content " + k + " at depth 9", LIMIT, reader(8, MOST, MOST, MOST), Hex.restsWithin(8) + contents[k]);
+        String[] good = {Hex.NULL, Hex.text("a"), Hex.desc("Y")};
+        for (String content : good) {
+            CHECKS.reads(content + " at depth 8", NULL, reader(8, MOST, MOST, MOST),
+                    Hex.restsWithin(7) + content + Hex.endOfRests(7));
+            CHECKS.fault(content + " at depth 9", LIMIT, reader(8, MOST, MOST, MOST), Hex.restsWithin(8) + content);
         }
-        for (int k = 0; k < 4; k++) {
-            GraphReader x = reader(8, MOST, MOST, MOST);
-            String content = k == 2 ? Hex.NULL : contents[k];
-            CHECKS.reads("content " + k + " at depth 8", NULL, x, Hex.restsWithin(7) + content + Hex.endOfRests(7));
+        String[] faults = {Hex.ref(9), "7B", "79", "00"};
+        for (String content : faults) {
+            CHECKS.fault(content + " at depth 9", LIMIT, reader(8, MOST, MOST, MOST), Hex.restsWithin(8) + content);
         }
     }
 
